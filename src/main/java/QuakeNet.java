@@ -592,22 +592,24 @@ public final class QuakeNet {
             return true;
         }
 
+        /** An or waits until the ALL to its right has been read. */
         private boolean readEither(int depth) {
-            boolean good = readAll(depth);
-            for (int i = 0; i < length && good && token == OR; i++) {
-                next();
-                good = readAll(depth);
-                draft.addStep(Rules.OR, 0, 0);
-            }
-            return good;
-        }
-
-        private boolean readAll(int depth) {
+            boolean orWaits = false;
             boolean good = readAtom(depth);
-            for (int i = 0; i < length && good && token == AND; i++) {
+            for (int i = 0; i < length && good && (token == AND || token == OR); i++) {
+                boolean and = token == AND;
+                if (!and && orWaits) {
+                    draft.addStep(Rules.OR, 0, 0);
+                }
+                orWaits |= !and;
                 next();
                 good = readAtom(depth);
-                draft.addStep(Rules.AND, 0, 0);
+                if (and) {
+                    draft.addStep(Rules.AND, 0, 0);
+                }
+            }
+            if (orWaits) {
+                draft.addStep(Rules.OR, 0, 0);
             }
             return good;
         }
