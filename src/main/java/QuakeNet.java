@@ -184,7 +184,7 @@ public final class QuakeNet {
 
     public int rumour(int word) throws IndexOutOfBoundsException {
         needWord(word);
-        return town.net.hadAt[word] == NONE ? NONE : town.net.firstToSwell(word);
+        return town.net.firstToSwell(word);
     }
 
     public int sayings(int person, int known, boolean mouths) throws IndexOutOfBoundsException {
@@ -738,7 +738,7 @@ public final class QuakeNet {
 
         private final int[] kind = new int[MOST_LINES];
         private final int[] number = new int[MOST_LINES];
-        /** Where the steps of a LINE begin; they end where those of the next one begin. */
+        /** Where the steps of a LINE begin (of the first one at 0); they end where the next one's begin. */
         private final int[] begin = new int[MOST_LINES + 1];
         int lines;
         /** A text of 400 bytes has no more than 200 steps: each takes two bytes at least. */
@@ -765,7 +765,6 @@ public final class QuakeNet {
             if (lines < MOST_LINES) {
                 kind[lines] = lineKind;
                 number[lines] = lineNumber;
-                begin[lines] = steps;
                 lines++;
                 begin[lines] = steps;
             }
@@ -859,7 +858,7 @@ public final class QuakeNet {
         }
     }
 
-    /** WORDS as they were told, and how they were JUDGED. */
+    /** WORDS as they were told, and how they were JUDGED; what is behind the last one is all 0. */
     private static final class Words {
         static final int FACTS = 9;
         static final int KIND = 0;
@@ -897,10 +896,7 @@ public final class QuakeNet {
             fact[MOUTH][word] = mouth;
             fact[TICK][word] = tick;
             fact[LIFE][word] = life;
-            fill(word, 0, 0, 0, 0);
             fact[UNDOES][word] = NONE;
-            undoers[word] = 0;
-            verdict[word] = 0;
             size++;
             return word;
         }
@@ -1097,7 +1093,7 @@ public final class QuakeNet {
             return (int) (hadPath[word] >> 4 * i & 15);
         }
 
-        /** The NUMBER grows with the hands alone, so it is told anew from the MOUTH on. */
+        /** The NUMBER grows by nothing but hands that SWELL, so it need not be kept for each hand. */
         int firstToSwell(int word) {
             int kind = words.fact[Words.KIND][word];
             boolean grows = (kind == SEEN || kind == NEED) && words.fact[Words.NUMBER][word] < MOST_NUMBER;
@@ -1474,7 +1470,6 @@ public final class QuakeNet {
 
         void findBest() {
             bestPrice = Integer.MAX_VALUE;
-            bestHeaps = MOST + 1;
             part(0, 0, 0);
         }
 

@@ -37,6 +37,7 @@ public final class PromiseTest {
         promise36();
         promise37And38();
         promise39And40();
+        imageOfWays();
         promise41();
         CHECKS.finish("PromiseTest");
     }
@@ -212,6 +213,11 @@ public final class PromiseTest {
         wrongAt("pass pass", 5);
         wrongAt("passs", 0);
         wrongAt("passif alive", 0);
+        wrongAt("passz", 0);
+        wrongAt("pas", 0);
+        wrongAt("xass", 0);
+        wrongAt("pass if alivealive", 8);
+        wrongAt("pass if age<1and hops<", 22);
         wrongAt("Pass", 0);
         wrongAt("passX", 4);
         wrongAt("pass" + (char) 233, 4);
@@ -252,6 +258,7 @@ public final class PromiseTest {
         wrongAt("pass if (not (not (not (alive))))", 23);
         wrongAt("pass;pass;pass;pass;pass;pass;pass;pass;pass;pass; pass", 51);
         wrongAt("pass;pass;pass;pass;pass;pass;pass;pass;pass;pass;", 50);
+        manyLongTexts();
         x = new QuakeNet();
         x.ticks(1);
         Tapes.put(x, "x");
@@ -262,6 +269,46 @@ public final class PromiseTest {
         same("6: not told", x.count(3), 0);
         same("7: it was read, and was right", x.fault(), NONE);
         CHECKS.no("6: the TAPE is used up", x.end(1));
+    }
+
+    /** A text is read as if it were the first one, however much was read before. */
+    private static void manyLongTexts() {
+        x = new QuakeNet();
+        phones(1);
+        x.say(0, 4, 9, 0, 0, 0, 0);
+        StringBuilder text = new StringBuilder("first 3 if not kin");
+        while (text.length() < 380) {
+            text.append(" and not kin");
+        }
+        for (int i = 0; i < 8; i++) {
+            Tapes.put(x, text.toString());
+            same("6: a long LINE", x.rules(), 1);
+            same("6: it holds", x.copy(0, 0, 4), 3);
+            Tapes.put(x, text + " and kin");
+            x.rules();
+            same("6: it does not", x.copy(0, 0, 4), 0);
+        }
+        precedence("alive or order and seen", 0);
+        precedence("order or alive and seen", 1);
+        precedence("(order or alive) and seen", 0);
+        precedence("alive and seen or order", 1);
+        precedence("alive and seen or order and seen or need or number < 1 and age < 1", 1);
+        precedence("not order or order", 1);
+        precedence("not (order or order)", 0);
+        precedence("not alive and order", 1);
+        precedence("not order and alive", 0);
+        precedence("not (order and alive)", 1);
+        precedence("number < 0", 0);
+        precedence("have > 0 and have < 2 and hops < 1", 1);
+        precedence("have > 1 or hops > 0", 0);
+        precedence("charge < 1001 and charge > 999", 1);
+        precedence("charge < 1000 or charge > 1000", 0);
+    }
+
+    private static void precedence(String condition, int due) {
+        Tapes.put(x, "first 1 if " + condition);
+        x.rules();
+        same("6: " + condition, x.copy(0, 0, 4), due);
     }
 
     private static void promise8() {
@@ -413,6 +460,13 @@ public final class PromiseTest {
         same("10: 2 came", x.copy(0, 2, 0), 3);
         same("10: 1 gave none away", x.look(1, 7), 0);
         same("10: of no less a MARK none goes", x.count(5), 2);
+        anew("");
+        x.phone(0, 100, 1, 0);
+        x.phone(0, 100, 1, 0);
+        x.say(0, 0, 50, 0, 0, 0, 0);
+        x.say(1, 0, 50, 0, 0, 0, 0);
+        x.ticks(1);
+        same("10: nor of the same one", x.count(5), 0);
         anew("first 1 if number > 2; first 5 if hops > 0");
         x.phone(0, 100, 1, 0);
         x.phone(0, 100, 1, 0);
@@ -540,6 +594,9 @@ public final class PromiseTest {
         x.say(0, 0, 50, 0, 0, 0, 0);
         x.ticks(1);
         same("12: CHARGE is below 998 now", x.copy(1, 0, 4), 7);
+        same("12: age is from the telling on", x.copy(0, 1, 4), 7);
+        x.say(0, 0, 50, 0, 0, 0, 0);
+        same("12: and 0 then", x.copy(0, 3, 4), 0);
         anew("");
         x.phone(0, 1000, 12, 0);
         x.phone(0, 1000, 12, 9);
@@ -898,6 +955,17 @@ public final class PromiseTest {
         refused("29: a 6th", UNSUPPORTED, () -> x.stones(0, 0, 0, 0, 1));
         refused("29: a wrong 6th", ARGUMENT, () -> x.stones(0, 0, 0, 21, 1));
         same("32: counts stay", x.count(9) * 10 + x.count(10), 54);
+        anew("");
+        x.stones(0, 2, 100, 1, 7);
+        x.gang(0, 1);
+        x.gang(0, 7);
+        x.gang(0, 8);
+        x.gang(0, 6);
+        same("31: seven TICKS", x.saved(0, 0), 2 * 93);
+        same("31: one", x.saved(1, 0), 2 * 99);
+        same("31: one for the strongest too", x.saved(2, 0), 2 * 99);
+        same("31: rounded up", x.saved(3, 0), 2 * 98);
+        same("32: the first of the best", x.send(1), 0);
     }
 
     private static void promise33And34() {
@@ -1084,6 +1152,41 @@ public final class PromiseTest {
         same("40: THE IMAGE is the one kept last", print(x), later);
         same("40: with its dawn, on two LOTS", x.far(0, 0), 2);
         same("40: and its walks", would("", 0), 1);
+    }
+
+    /** A COPY that came anew on another WAY since goes back to the WAY of then. */
+    private static void imageOfWays() {
+        anew("first 5 if seen; first 9 if need");
+        x.phone(9, 1000, 12, 0);
+        x.phone(1, 1000, 12, 0);
+        x.phone(2, 1000, 1, 0);
+        x.phone(2, 1000, 12, 0);
+        x.say(3, 1, 200, 0, 0, 0, 0);
+        x.ticks(1);
+        x.move(0, 1, 2, 2);
+        x.move(0, 3, 3, 4);
+        x.ticks(1);
+        x.image();
+        x.say(2, 2, 2, 0, 0, 0, 0);
+        x.ticks(2);
+        same("40: it came anew", x.copy(2, 0, 2), 1);
+        x.back();
+        same("40: it came as then", x.copy(2, 0, 2), 3);
+        x.move(0, 2, 3, 9);
+        x.ticks(1);
+        same("40: its WAY", x.way(0, 0), 3);
+        same("40: its WAY, then", x.way(0, 1), 2);
+        same("40: no more of it", x.way(0, 2), NONE);
+        x.back();
+        x.say(2, 2, 9, 7, 8, 2, 6);
+        x.judge(1, true);
+        x.undo(2, 9, 1);
+        x.back();
+        x.undo(1, 9, 0);
+        for (int what = 4; what < 8; what++) {
+            same("40: nothing of what was told since", x.word(1, what), 0);
+        }
+        same("40: nor of what was judged", x.weight(2), 500);
     }
 
     private static void change() {
