@@ -108,6 +108,7 @@ public final class QuakeNet {
         needPhone(phone);
         needWord(word);
         needWithin(life, 1, MOST_LIFE);
+        // Only what is no undone WORD itself can be undone.
         needWithin(town.words.fact[Words.KIND][word], 0, ORDER);
         needSpace(town.words.size, MOST_WORDS);
         int undone = town.words.open(UNDONE, phone, town.net.tick, life);

@@ -38,6 +38,7 @@ public final class PromiseTest {
         promise37And38();
         promise39And40();
         imageOfWays();
+        imageOfTheRest();
         promise41();
         CHECKS.finish("PromiseTest");
     }
@@ -432,6 +433,22 @@ public final class PromiseTest {
         same("10: two were handed", x.look(2, 6), 2);
         same("10: the second", x.copy(2, 2, 0), 1);
         same("10: no CHARGE for the third", x.copy(2, 0, 0), NONE);
+        anew("");
+        phones(2);
+        x.say(1, 0, 2, 0, 0, 0, 0);
+        x.ticks(1);
+        same("10: COST is 1 without a LINE", x.look(1, 1), 999);
+        same("10: as is the taker's", x.look(0, 1), 999);
+        anew("first 2 if order; first 3 if need");
+        x.phone(0, 1000, 12, 0);
+        x.phone(0, 1, 12, 0);
+        x.say(0, 4, 2, 0, 0, 0, 0);
+        x.say(0, 2, 2, 0, 0, 0, 0);
+        x.say(0, 4, 2, 0, 0, 0, 0);
+        x.say(0, 2, 2, 0, 0, 0, 0);
+        x.ticks(1);
+        same("10: the greatest MARK, the least number", x.copy(1, 1, 1), 1);
+        same("10: and it alone", x.look(1, 2), 1);
         anew("cost 0");
         x.phone(0, 1, 12, 0);
         x.phone(0, 1, 12, 0);
@@ -595,6 +612,7 @@ public final class PromiseTest {
         x.ticks(1);
         same("12: CHARGE is below 998 now", x.copy(1, 0, 4), 7);
         same("12: age is from the telling on", x.copy(0, 1, 4), 7);
+        ageOfLaterWords();
         x.say(0, 0, 50, 0, 0, 0, 0);
         same("12: and 0 then", x.copy(0, 3, 4), 0);
         anew("");
@@ -603,6 +621,20 @@ public final class PromiseTest {
         x.say(1, 1, 50, 0, 0, 0, 9995);
         x.ticks(1);
         same("12: 9999 at most", x.copy(0, 0, 0), 9999);
+    }
+
+    private static void ageOfLaterWords() {
+        QuakeNet before = x;
+        anew("first 1 if age < 3; first 2 if age > 1");
+        phones(1);
+        x.ticks(7);
+        x.say(0, 0, 50, 0, 0, 0, 0);
+        int[] due = {1, 1, 3, 2};
+        for (int age = 0; age < 4; age++) {
+            same("12: MARK at age " + age, x.copy(0, 0, 4), due[age]);
+            x.ticks(1);
+        }
+        x = before;
     }
 
     private static void promise13() {
@@ -704,6 +736,12 @@ public final class PromiseTest {
             same("17: of " + w, x.rumour(w), due[w]);
         }
         same("17: it came with more", x.copy(0, 1, 0), 9999);
+        anew("");
+        x.phone(0, 1000, 12, 0);
+        x.phone(0, 1000, 12, 1);
+        x.say(1, 2, 9, 0, 0, 0, 9998);
+        x.ticks(1);
+        same("17: one more", x.rumour(0), 1);
     }
 
     private static void promise18() {
@@ -763,7 +801,11 @@ public final class PromiseTest {
         same("20: between", x.could(0, 5, 10), 8 + 64 + 512 + 4096);
         x.speed(8);
         same("20: all", x.could(0, 5, 10), 65535);
+        same("20: at TICK 0", x.could(0, 0, 10), 65535);
+        same("20: at TICK 400", x.could(0, 400, 10), 65535);
         same("20: known later", x.could(0, 4, 1000), 1);
+        x.speed(1);
+        same("19: 1 again", x.could(0, 3, 10), 0);
     }
 
     private static void promise21() {
@@ -780,6 +822,7 @@ public final class PromiseTest {
         same("21: the other one", x.least(0, 40, true), 2);
         seen(0, 0, 14, 2);
         same("21: two of four", x.least(0, 40, false), 2);
+        same("24: AGAINST by the first one too", x.sure(0, 14), 0);
         same("21: 0 and 2 are as many as 1 and 3", x.least(0, 40, true), 5);
         for (int i = 4; i < 10; i++) {
             seen(0, 0, 0, 1);
@@ -879,6 +922,28 @@ public final class PromiseTest {
         refused("25: a wrong 8th", ARGUMENT, () -> x.describe(0, 0, 10));
         same("25: seven", x.count(8), 7);
         prices();
+        partings();
+    }
+
+    /** Partings as dear as one another: the fewest HEAPS, then the least numbers one behind the other. */
+    private static void partings() {
+        anew("");
+        x.apart(7);
+        x.describe(1, 1, 1);
+        same("28: alone", x.heap(0), 0);
+        x.describe(1, 1, 2);
+        same("28: as dear apart", x.heap(1), 0);
+        x.describe(1, 1, 3);
+        same("28: with neither", x.heap(2), 1);
+        same("27: all three", x.heaps(0), 21);
+        same("27: fewest of 7 and 14, or 21", x.heaps(1), 2);
+        x.apart(6);
+        same("28: each alone", x.heap(2), 2);
+        same("27: three", x.heaps(0), 18);
+        x.apart(8);
+        x.describe(1, 1, 1);
+        same("28: where it belongs", x.heap(3), 0);
+        same("28: apart from it", x.heap(1), 1);
     }
 
     private static int price(int name, int age, int coat, int otherName, int otherAge, int otherCoat) {
@@ -905,6 +970,7 @@ public final class PromiseTest {
         same("28: it goes with the first", x.heap(2), 0);
         same("27: 10 at first", x.heaps(0), 20);
         x.apart(0);
+        same("28: parted anew", x.heap(1), 1);
         same("27: nothing at all", x.heaps(0), 0);
         same("27: the fewest", x.heaps(1), 2);
     }
@@ -966,6 +1032,15 @@ public final class PromiseTest {
         same("31: one for the strongest too", x.saved(2, 0), 2 * 99);
         same("31: rounded up", x.saved(3, 0), 2 * 98);
         same("32: the first of the best", x.send(1), 0);
+        same("32: for the others none", x.send(0), NONE);
+        refused("32: a gang too many", INDEX, () -> x.send(4));
+        anew("");
+        x.stones(0, 0, 0, 0, 1);
+        x.gang(0, 1);
+        same("32: for nothing", x.send(NONE), 0);
+        same("32: rather than nowhere", x.send(0), 0);
+        x.gang(0, 1);
+        refused("32: a third", INDEX, () -> x.send(2));
     }
 
     private static void promise33And34() {
@@ -987,6 +1062,7 @@ public final class PromiseTest {
         same("34: again", x.ask(2, true), 2 + 16 + 32 + 64 + 512);
         x.undo(0, 9, 0);
         same("34: undone", x.ask(2, true), 0);
+        factsOfNobody();
         shows("show", true, true);
         shows("show if kin", true, false);
         shows("show if not kin", false, true);
@@ -994,6 +1070,17 @@ public final class PromiseTest {
         shows("show if alive or seen or need or asked or order or undone or number > 0", false, false);
         shows("show if order; pass; show if kin", true, false);
         shows("pass if kin; first 3 if kin", false, false);
+    }
+
+    /** What was asked of a COPY before does not count for a show LINE. */
+    private static void factsOfNobody() {
+        anew("show if age > 0 or hops > 0 or have > 0 or charge > 0 or number > 0 or seen");
+        phones(2);
+        x.say(1, 1, 9, 1, 7, 0, 5);
+        x.ticks(1);
+        x.hide(1, true);
+        same("12: the COPY", x.copy(0, 0, 4), 0);
+        same("34: all else is 0 or no", x.ask(1, false), 0);
     }
 
     private static void shows(String rules, boolean kin, boolean other) {
@@ -1071,6 +1158,12 @@ public final class PromiseTest {
         same("36: told at the TENT", would("", 1), 0);
         same("36: told later", would("", 2), 4);
         same("36: told later at the TENT", would("pass if kin", 3), 3);
+        x.move(1, 1, 8, 9);
+        x.move(0, 1, 9, 9);
+        x.ticks(1);
+        same("36: on LOT 0", would("pass if age > 7", 0), 8);
+        x.ticks(1);
+        same("36: LOT 0 has gone away", would("pass if age > 8", 0), NONE);
         same("36: the RULES stay", x.count(3), 1);
         same("36: the town stays", x.word(0, 9), 1);
         Tapes.put(x, "pass if");
@@ -1159,34 +1252,61 @@ public final class PromiseTest {
         anew("first 5 if seen; first 9 if need");
         x.phone(9, 1000, 12, 0);
         x.phone(1, 1000, 12, 0);
-        x.phone(2, 1000, 1, 0);
+        x.phone(15, 1000, 12, 0);
         x.phone(2, 1000, 12, 0);
+        x.phone(2, 1000, 1, 0);
         x.say(3, 1, 200, 0, 0, 0, 0);
-        x.ticks(1);
         x.move(0, 1, 2, 2);
         x.move(0, 3, 3, 4);
-        x.ticks(1);
-        x.image();
-        x.say(2, 2, 2, 0, 0, 0, 0);
         x.ticks(2);
-        same("40: it came anew", x.copy(2, 0, 2), 1);
+        same("40: 1 has it from the MOUTH", x.copy(1, 0, 2), 3);
+        x.image();
+        x.say(4, 2, 2, 0, 0, 0, 0);
+        x.ticks(2);
+        same("40: it came anew", x.copy(4, 0, 2), 1);
         x.back();
-        same("40: it came as then", x.copy(2, 0, 2), 3);
-        x.move(0, 2, 3, 9);
+        same("40: it came as then", x.copy(4, 0, 2), 3);
+        x.move(0, 4, 3, 9);
         x.ticks(1);
         same("40: its WAY", x.way(0, 0), 3);
-        same("40: its WAY, then", x.way(0, 1), 2);
+        same("40: its WAY, then", x.way(0, 1), 4);
         same("40: no more of it", x.way(0, 2), NONE);
         x.back();
         x.say(2, 2, 9, 7, 8, 2, 6);
         x.judge(1, true);
         x.undo(2, 9, 1);
         x.back();
+        x.say(1, 3, 9, 0, 0, 0, 0);
+        x.move(0, 2, 3, 2);
+        x.ticks(1);
+        same("40: nothing undoes it", x.copy(2, 1, 1), 1);
+        x.back();
         x.undo(1, 9, 0);
         for (int what = 4; what < 8; what++) {
             same("40: nothing of what was told since", x.word(1, what), 0);
         }
         same("40: nor of what was judged", x.weight(2), 500);
+    }
+
+    private static void imageOfTheRest() {
+        anew("");
+        phones(1);
+        seen(0, 1, 5, 0);
+        x.describe(1, 1, 1);
+        x.describe(1, 9, 1);
+        x.ticks(1);
+        x.image();
+        x.speed(3);
+        x.hide(1, true);
+        x.apart(0);
+        x.ticks(3);
+        x.tear(0, 1);
+        same("38: the oldest", x.check(), 0);
+        x.back();
+        same("40: ROWS", x.check(), NONE);
+        refused("40: ROWS of later TICKS", ELEMENT, () -> x.tear(1, 0));
+        same("40: SPEED and who is HIDDEN", x.ask(1, false), 2 + 16 + 32 + 64 + 512);
+        same("40: APART", x.heaps(0), 18);
     }
 
     private static void change() {
@@ -1276,6 +1396,11 @@ public final class PromiseTest {
         for (int what = 0; what < 12; what++) {
             same("41: what " + what, x.count(what), due[what]);
         }
+        x.move(0, 0, 9, 9);
+        same("41: LOT 0 too", x.count(11), 3);
+        x.say(0, 3, 9, 0, 0, 0, 0);
+        x.say(2, 3, 9, 0, 0, 0, 0);
+        same("41: the TENT HAD three of six", x.count(7), 3);
         same("41: another", x.count(12), NONE);
         same("41: below", x.count(-1), NONE);
     }
