@@ -310,6 +310,9 @@ final class HelpEdges extends Edges {
             x.ticks(3);
             is("not at all", x.saved(0, 0), 100);
             is("four TICKS after it was told", x.saved(0, 1), 20);
+            x.stones(0, 1, 100, 20, 1);
+            is("told later", x.saved(0, 2), 80);
+            is("told earlier", x.saved(0, 1), 20);
         });
         edge(TERMS, "LIVING times what is left of ODDS then (0 at least), in hundredths (whole)", () -> {
             x.gang(0, 1);

@@ -62,10 +62,10 @@ final class TentEdges extends Edges {
             }
             say(3, 0, 0);
             for (int i = 1; i < 4; i++) {
-                x.move(0, 4 - i, i, 12 + i);
-                x.move(0, 3 - i, i, 12 + i);
+                x.move(0, 4 - i, 20 + i, 12 + i);
+                x.move(0, 3 - i, 20 + i, 12 + i);
             }
-            x.ticks(2);
+            x.ticks(22);
             is("not HAD", x.way(0, 0), NONE);
             x.ticks(1);
             is("its MOUTH", x.way(0, 0), 3);
@@ -80,8 +80,11 @@ final class TentEdges extends Edges {
             say(0, 0, 0);
             x.ticks(1);
             is("the TENT", x.way(0, 0), 0);
+            say(0, 0, 0);
+            is("of one told later too", x.way(1, 0), 0);
             for (int i : new int[] {1, 2, -1, LEAST, MOST}) {
                 is("none is " + i, x.way(0, i), NONE);
+                is("none of the later one is " + i, x.way(1, i), NONE);
             }
         });
         edge(TERMS, "its WAY: all PHONES that handed it on, from its MOUTH to the last one", () -> {

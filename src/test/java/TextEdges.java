@@ -271,6 +271,16 @@ final class TextEdges extends Edges {
             wrong("pass if alive alive", 14);
             wrong("first -1", 6);
             wrong("pass if (alive;pass)", 14);
+            wrong("first pass", 6);
+            wrong("cost show", 5);
+            wrong("first;pass", 5);
+            wrong("pass if not or or", 12);
+            wrong("pass if not and seen 5", 12);
+            wrong("pass if (or or", 9);
+            wrong("pass if (and) (", 9);
+            wrong("pass if age < or or", 14);
+            wrong("pass if alive and or or", 18);
+            wrong("pass if show;show;+", 8);
             wrong("pass" + (char) 255, 4);
             wrong("pass" + (char) 128, 4);
         });

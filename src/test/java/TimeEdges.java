@@ -347,7 +347,10 @@ final class TimeEdges extends Edges {
             x.phone(0, 50, 2, 1);
             x.move(0, 1, 9, 9);
             seen(1, 4, 5, 0);
-            x.describe(1, 1, 1);
+            x.describe(1, 20, 3);
+            x.describe(2, 20, 4);
+            x.describe(NONE, 30, NONE);
+            x.apart(900);
             x.stones(0, 5, 50, 1, 1);
             x.gang(0, 1);
             x.judge(0, true);
@@ -370,13 +373,17 @@ final class TimeEdges extends Edges {
             x.ticks(5);
             x.tear(0, 1);
             yes("gone back", x.back());
-            int[] due = {1, 2, 1, 2, 2, 1, 0, 1, 1, 1, 1, 1};
+            int[] due = {1, 2, 1, 2, 2, 1, 0, 1, 3, 1, 1, 1};
             for (int what = 0; what < due.length; what++) {
                 is("count " + what, x.count(what), due[what]);
             }
             is("CHARGE", x.look(1, 1), 48);
             is("HAD", x.had(0), 1);
-            is("APART", x.heaps(0), 10);
+            is("the WAY it came", x.way(0, 0), 1);
+            is("and no more of it", x.way(0, 1), NONE);
+            is("where it was at the end of TICK 0", x.far(0, 0), 1);
+            is("where it was at the end of TICK 1", x.far(0, 1), 2);
+            is("APART and descriptions", x.heaps(0), 900 + 47);
             is("SPEED, and who is HIDDEN", x.ask(4, false), bits(5, 1, 4, 6, 9));
             no("who was HIDDEN is", x.hide(5, true));
             is("JUDGED", x.weight(1), 666);
@@ -431,8 +438,10 @@ final class TimeEdges extends Edges {
             x.ticks(2);
             is("3 has it from 4", x.copy(3, 0, 2), 4);
             x.back();
-            x.move(0, 3, 2, 9);
-            x.ticks(1);
+            x.move(0, 3, 3, 9);
+            x.ticks(2);
+            x.image();
+            x.back();
             int[] way = {1, 3, NONE};
             for (int i = 0; i < 3; i++) {
                 is("its WAY, PHONE " + i, x.way(0, i), way[i]);
