@@ -317,11 +317,12 @@ public final class QuakeNet {
 
     public int far(int word, int tick) throws IndexOutOfBoundsException, IllegalArgumentException {
         needWord(word);
-        needWithin(tick, 0, Integer.MAX_VALUE);
+        int until = Math.min(tick, town.net.tick);
+        needWithin(until, 0, LAST_TICK);
         int sum = 0;
         for (int lot = 0; lot < Walks.LOTS; lot++) {
             if (lot == 0 || town.walks.moves[lot] > 0) {
-                sum += spreadOn(lot, word, Math.min(tick, town.net.tick));
+                sum += spreadOn(lot, word, until);
             }
         }
         return sum;
@@ -1438,6 +1439,8 @@ public final class QuakeNet {
         static final int MOST = 7;
         static final int NAME_PRICE = 20;
         static final int COAT_PRICE = 7;
+        /** Above what any parting comes to: 21 pairs, each 126 at most, and 7 HEAPS of 1000. */
+        static final int NO_PRICE = 10000;
 
         private final int[] name = new int[MOST];
         private final int[] age = new int[MOST];
@@ -1470,7 +1473,7 @@ public final class QuakeNet {
         }
 
         void findBest() {
-            bestPrice = Integer.MAX_VALUE;
+            bestPrice = NO_PRICE;
             part(0, 0, 0);
         }
 

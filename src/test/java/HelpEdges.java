@@ -136,6 +136,20 @@ final class HelpEdges extends Edges {
     }
 
     private void best() {
+        edge(TERMS, "the prices of all pairs in one HEAP, and APART (0 to 1000; 10 at first) for each HEAP, together", () -> {
+            for (int i = 0; i < 7; i++) {
+                x.describe(i, i % 2 * 99, i);
+            }
+            x.apart(1000);
+            is("two of 1000, and nine pairs of 27", x.heaps(0), 2243);
+            is("two", x.heaps(1), 2);
+            x.apart(53);
+            is("four of 53, and three pairs of 27", x.heaps(0), 293);
+            int[] due = {0, 1, 0, 1, 2, 3, 2};
+            for (int i = 0; i < due.length; i++) {
+                is("of the dearest " + i, x.heap(i), due[i]);
+            }
+        });
         edge(TERMS, "BEST: the least; of several with the fewest HEAPS", () -> {
             x.apart(20);
             x.describe(1, 1, 1);

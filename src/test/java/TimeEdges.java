@@ -41,6 +41,12 @@ final class TimeEdges extends Edges {
             refused("-1", ARGUMENT, () -> x.far(0, -1));
             refused("far below", ARGUMENT, () -> x.far(0, LEAST));
             is("0 is not", x.far(0, 0), 1);
+            x.ticks(3);
+            refused("-1 at TICK 3", ARGUMENT, () -> x.far(0, -1));
+            refused("far below at TICK 3", ARGUMENT, () -> x.far(0, LEAST));
+            refused("no such WORD comes first", INDEX, () -> x.far(1, -1));
+            is("0 is not at TICK 3", x.far(0, 0), 1);
+            is("the last int", x.far(0, MOST), 1);
         });
         edge(TERMS, "how many PHONES have a COPY of it at the end of that TICK", () -> {
             phones(3);
